@@ -578,7 +578,9 @@ public final class BreadBox {
                 return;
             }
             for (int kind = 0; kind < KINDS; kind++) {
-                Arrays.fill(seen[kind], 0, lastWeek + 1, NOTHING);
+                for (int w = 0; w <= lastWeek; w++) {
+                    seen[kind][w] = NOTHING;
+                }
             }
             for (int i = 0; i < known; i++) {
                 if (fromOf[i] <= lastWeek) {
