@@ -1,6 +1,9 @@
 import java.util.Random;
 
-/** Runs of chance calls, each answered by BreadBox and by PlainBox, which must agree; the seeds are fixed. */
+/**
+ * Runs of chance calls, each answered by BreadBox and by PlainBox, which must agree; the seeds are fixed. Some runs begin
+ * with all places but a few taken, or a few WEEKS ahead of the last one.
+ */
 public final class AgainstPlainTest {
     private static final int MOST_CALLS = 512;
     private static final int[] EDGES = {-1, 0, 1, 6, 7, 8, 40, 100, 200, 301, 400, 1000, 1001,
@@ -12,18 +15,22 @@ public final class AgainstPlainTest {
     private final PlainBox plain = new PlainBox();
     private final StringBuilder calls = new StringBuilder();
     private final int weight;
+    private final int mostWeeks;
     private int made;
 
-    private AgainstPlainTest(long seed, int weight) {
+    private AgainstPlainTest(long seed, int weight, int mostWeeks) {
         this.chance = new Random(seed);
         this.weight = weight;
+        this.mostWeeks = mostWeeks;
     }
 
     public static void main(String[] args) {
         int runs = args.length > 0 ? Integer.parseInt(args[0]) : 400;
         for (int seed = 0; seed < runs; seed++) {
-            AgainstPlainTest test = new AgainstPlainTest(seed, 1 + seed % 4);
-            String fault = test.run();
+            int weight = 1 + seed % 4;
+            boolean late = seed % 20 == 19;
+            AgainstPlainTest test = new AgainstPlainTest(seed, weight, late ? 310 : 25 * weight);
+            String fault = late ? test.runFromLateWeek() : seed % 5 == 4 ? test.runFromFewPlaces(seed / 5 % 3) : test.run();
             if (fault != null) {
                 System.out.println("seed " + seed + ":\n" + test.calls + fault);
                 System.exit(1);
@@ -38,6 +45,32 @@ public final class AgainstPlainTest {
             fault = oneCall();
         }
         return fault;
+    }
+
+    private String runFromLateWeek() {
+        int begun = 290 + upTo(9);
+        String fault = joins();
+        while (fault == null && plain.count(0) < begun) {
+            fault = weekEnds();
+        }
+        return fault == null ? run() : fault;
+    }
+
+    /** Begins as all MEMBERS, RULES or PAPERS but a few are there. */
+    private String runFromFewPlaces(int which) {
+        int begun = which == 0 ? 37 : 190;
+        String fault = joins();
+        while (fault == null && plain.count(1 + which) < begun && made < MOST_CALLS) {
+            fault = which == 0 ? joins() : which == 1 ? tellsRule() : tellsPaper(plain.count(0));
+            if (fault == null && chance.nextInt(20) == 0) {
+                fault = weekEnds();
+            }
+        }
+        return fault == null ? run() : fault;
+    }
+
+    private String weekEnds() {
+        return agree("week()", box.week(), plain.week());
     }
 
     private String agree(String call, long got, long due) {
@@ -104,8 +137,8 @@ public final class AgainstPlainTest {
             int paper = maybe(upTo(plain.count(3) - 1));
             return agree("back(" + paper + ")", box.back(paper), plain.back(paper));
         }
-        if (pick < 30 + 4 * weight && now < 25 * weight) {
-            return agree("week()", box.week(), plain.week());
+        if (pick < 30 + 4 * weight && now < mostWeeks) {
+            return weekEnds();
         }
         return asks(now);
     }

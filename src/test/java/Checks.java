@@ -11,6 +11,22 @@ final class Checks {
         }
     }
 
+    void same(String call, String got, String due) {
+        made++;
+        if (!got.equals(due)) {
+            wrong++;
+            System.out.println(call + " answered " + got + ", due is " + due);
+        }
+    }
+
+    void other(String call, long got, long refusal) {
+        made++;
+        if (got == refusal) {
+            wrong++;
+            System.out.println(call + " was refused with " + got);
+        }
+    }
+
     void yes(String call, boolean got) {
         due(call, got ? 1 : 0, 1);
     }

@@ -6,44 +6,25 @@ public final class LimitsTest {
     private static final long MOST_BYTES = 2_000_000;
 
     public static void main(String[] args) {
+        bookedEachWeek();
         mostBookings();
         refusedWeekChangesNothing();
         roomOfManyQuestions();
         CHECKS.end("LimitsTest");
     }
 
-    /** Forty MEMBERS, sick for 400 days from week 0 on, nobody ever OUT: 58 WEEKS with a GRANT each. */
-    private static BreadBox allSick() {
-        BreadBox box = new BreadBox();
-        for (int m = 0; m < 40; m++) {
-            box.join(30, m % 4);
-        }
-        box.rule(0, 0, 0);
-        for (int w = 0; w < 58; w++) {
-            box.week();
-        }
-        for (int m = 0; m < 40; m++) {
-            box.paper(m, 0, 399);
-        }
-        return box;
-    }
-
-    /** Books all 2,320 GRANTS eight times, and those of the last 36 WEEKS once more: 20,000 to the coin. */
-    private static BreadBox fullLedger() {
-        BreadBox box = allSick();
+    private static void bookedEachWeek() {
+        BreadBox box = Boxes.allSick(399);
         CHECKS.due("7: all", box.week(), 2320);
-        for (int i = 1; i < 8; i++) {
-            box.rule(2, 0, 12 + 4 * i);
-            CHECKS.due("7: all anew", box.week(), 2320);
-        }
+        box.rule(2, 0, 16);
+        CHECKS.due("7: all anew", box.week(), 2320);
         box.rule(2, 22, 100);
         CHECKS.due("7: the last 36 weeks", box.week(), 1440);
-        return box;
     }
 
     private static void mostBookings() {
         long before = allocated();
-        BreadBox box = fullLedger();
+        BreadBox box = Boxes.fullLedger();
         long after = allocated();
         CHECKS.yes("room: " + (after - before) + " bytes", after - before < MOST_BYTES);
         CHECKS.due("7: bookings", box.count(4), 20_000);
@@ -63,7 +44,7 @@ public final class LimitsTest {
     }
 
     private static void refusedWeekChangesNothing() {
-        BreadBox box = fullLedger();
+        BreadBox box = Boxes.fullLedger();
         box.pay(5, 7);
         CHECKS.due("7: a sick week more", box.paper(5, 413, 413), 40);
         box.rule(1, 59, 0);
@@ -88,7 +69,7 @@ public final class LimitsTest {
 
     /** Questions make no objects: a run of any of them takes no more room than the object itself. */
     private static void roomOfManyQuestions() {
-        BreadBox box = allSick();
+        BreadBox box = Boxes.allSick(399);
         box.week();
         long before = allocated();
         long sum = 0;

@@ -41,27 +41,11 @@ public final class PromisesTest {
         CHECKS.due(call, got, due);
     }
 
-    private static void weeks(BreadBox box, int n) {
-        for (int i = 0; i < n; i++) {
-            box.week();
-        }
-    }
-
-    /** A box in which nobody is ever OUT, n WEEKS on, with one MEMBER who JOINED at once. */
-    private static BreadBox boxWithoutDues(int n) {
-        BreadBox box = new BreadBox();
-        box.join(30, 0);
-        box.rule(0, 0, 0);
-        weeks(box, n);
-        return box;
-    }
-
     private static void newObject() {
         BreadBox box = new BreadBox();
-        int[] atFirst = {4, 3, 12, 30, 60, 28, 8};
         for (int kind = 0; kind < 7; kind++) {
-            due("1: force at first " + kind, box.force(kind, 0, 0), atFirst[kind]);
-            due("1: force at first, week 1000, " + kind, box.force(kind, 1000, 0), atFirst[kind]);
+            due("1: force at first " + kind, box.force(kind, 0, 0), Boxes.AT_FIRST[kind]);
+            due("1: force at first, week 1000, " + kind, box.force(kind, 1000, 0), Boxes.AT_FIRST[kind]);
         }
         for (int what = 0; what < 8; what++) {
             due("1: count " + what, box.count(what), 0);
@@ -104,7 +88,7 @@ public final class PromisesTest {
         due("3: below", box.pay(0, LEAST), NO_COINS);
         due("3: member -1", box.pay(-1, 5), NO_COINS);
         due("3: member 1", box.pay(1, 5), NO_COINS);
-        weeks(box, 3);
+        Boxes.weeks(box, 3);
         due("3: three weeks on", box.pay(0, 2), 12 - 1003);
         due("3: paid", box.count(7), 1003);
         box.rule(0, 1, 100);
@@ -113,8 +97,8 @@ public final class PromisesTest {
 
     private static void rule() {
         BreadBox box = new BreadBox();
-        int[] least = {0, 0, 0, 1, 0, 0, 0};
-        int[] most = {100, 14, 100, 400, 400, 400, 50};
+        int[] least = Boxes.LEAST_VALUE;
+        int[] most = Boxes.MOST_VALUE;
         int told = 0;
         for (int kind = 0; kind < 7; kind++) {
             due("4: too low " + kind, box.rule(kind, 0, least[kind] - 1), NONE);
@@ -140,7 +124,7 @@ public final class PromisesTest {
 
     private static void paper() {
         BreadBox box = new BreadBox();
-        weeks(box, 2);
+        Boxes.weeks(box, 2);
         due("5: no member", box.paper(0, 14, 15), NONE);
         box.join(30, 0);
         due("5: ahead of joining", box.paper(0, 13, 15), NONE);
@@ -153,7 +137,7 @@ public final class PromisesTest {
         due("5: far", box.paper(0, MOST, LEAST), NONE);
         due("5: member -1", box.paper(-1, 14, 15), NONE);
         due("5: member 1", box.paper(1, 14, 15), NONE);
-        weeks(box, 60);
+        Boxes.weeks(box, 60);
         due("5: 401 days", box.paper(0, 14, 414), NONE);
         due("5: 400 days", box.paper(0, 14, 413), 2);
         for (int i = 3; i < 200; i++) {
@@ -166,7 +150,7 @@ public final class PromisesTest {
     }
 
     private static void back() {
-        BreadBox box = boxWithoutDues(1);
+        BreadBox box = Boxes.withoutDues(1, 1);
         due("6: a paper", box.paper(0, 0, 6), 0);
         CHECKS.no("6: -1", box.back(-1));
         CHECKS.no("6: 1", box.back(1));
@@ -212,7 +196,7 @@ public final class PromisesTest {
         BreadBox box = new BreadBox();
         box.join(30, 0);
         box.join(40, 1);
-        weeks(box, 2);
+        Boxes.weeks(box, 2);
         box.paper(1, 0, 20);
         box.paper(0, 7, 20);
         due("7: booked", box.week(), 5);
@@ -269,7 +253,7 @@ public final class PromisesTest {
         BreadBox box = new BreadBox();
         box.rule(2, 5, 50);
         box.rule(2, 3, 30);
-        weeks(box, 2);
+        Boxes.weeks(box, 2);
         box.rule(2, 3, 31);
         box.rule(2, 9, 90);
         due("9: ahead of all", box.force(2, 2, 2), 12);
@@ -291,7 +275,7 @@ public final class PromisesTest {
     }
 
     private static void grant() {
-        BreadBox box = boxWithoutDues(20);
+        BreadBox box = Boxes.withoutDues(1, 20);
         box.rule(1, 0, 2);
         box.rule(3, 0, 5);
         box.rule(4, 0, 4);
@@ -320,7 +304,7 @@ public final class PromisesTest {
     }
 
     private static void grantByRulesOfItsWeeks() {
-        BreadBox box = boxWithoutDues(10);
+        BreadBox box = Boxes.withoutDues(1, 10);
         box.paper(0, 10, 30);
         box.rule(1, 2, 0);
         box.rule(3, 2, 1);
@@ -338,7 +322,7 @@ public final class PromisesTest {
     }
 
     private static void grantAndPapersThatOverlap() {
-        BreadBox box = boxWithoutDues(10);
+        BreadBox box = Boxes.withoutDues(1, 10);
         box.paper(0, 20, 24);
         box.paper(0, 14, 21);
         box.paper(0, 16, 17);
@@ -356,7 +340,7 @@ public final class PromisesTest {
     }
 
     private static void day() {
-        BreadBox box = boxWithoutDues(6);
+        BreadBox box = Boxes.withoutDues(1, 6);
         box.rule(1, 0, 1);
         box.rule(3, 0, 2);
         box.rule(4, 0, 1);
@@ -387,7 +371,7 @@ public final class PromisesTest {
     }
 
     private static void illnessesThatAreJoined() {
-        BreadBox box = boxWithoutDues(12);
+        BreadBox box = Boxes.withoutDues(1, 12);
         box.paper(0, 0, 4);
         box.paper(0, 33, 35);
         due("11: 28 days between", box.day(0, 33, 12), 2);
@@ -410,13 +394,13 @@ public final class PromisesTest {
 
     private static void arrears() {
         BreadBox box = new BreadBox();
-        weeks(box, 2);
+        Boxes.weeks(box, 2);
         box.join(30, 0);
         box.pay(0, 3);
-        weeks(box, 2);
+        Boxes.weeks(box, 2);
         box.pay(0, 5);
         box.rule(0, 3, 7);
-        weeks(box, 2);
+        Boxes.weeks(box, 2);
         due("12: ahead of joining", box.arrears(0, 1, 6), 0);
         due("12: the week in which it joined", box.arrears(0, 2, 6), -3);
         due("12: one due", box.arrears(0, 3, 6), 4 - 3);
@@ -437,7 +421,7 @@ public final class PromisesTest {
     private static void out() {
         BreadBox box = new BreadBox();
         box.join(30, 0);
-        weeks(box, 10);
+        Boxes.weeks(box, 10);
         CHECKS.no("13: as much as eight weeks", box.out(0, 8, 10));
         CHECKS.yes("13: more than eight weeks", box.out(0, 9, 10));
         box.pay(0, 8);
@@ -469,7 +453,7 @@ public final class PromisesTest {
     private static void what() {
         BreadBox box = new BreadBox();
         box.join(30, 0);
-        weeks(box, 4);
+        Boxes.weeks(box, 4);
         box.paper(0, 7, 13);
         box.rule(2, 1, 20);
         due("14: told last", box.what(0, 1, 2, 1, 40), 160);
@@ -505,7 +489,7 @@ public final class PromisesTest {
     }
 
     private static void booked() {
-        BreadBox box = boxWithoutDues(3);
+        BreadBox box = Boxes.withoutDues(1, 3);
         box.paper(0, 7, 13);
         due("15: not yet", box.booked(0, 1), 0);
         box.week();
@@ -524,7 +508,7 @@ public final class PromisesTest {
     }
 
     private static void entry() {
-        BreadBox box = boxWithoutDues(3);
+        BreadBox box = Boxes.withoutDues(1, 3);
         box.join(20, 1);
         box.paper(1, 23, 27);
         box.week();
@@ -573,10 +557,10 @@ public final class PromisesTest {
 
     private static void worthAsYearsGo() {
         BreadBox box = new BreadBox();
-        weeks(box, 10);
+        Boxes.weeks(box, 10);
         box.join(39, 0);
         box.rule(2, 62, 24);
-        weeks(box, 51);
+        Boxes.weeks(box, 51);
         due("17: 51 weeks", box.worth(0, 1, 0), 9 * 12 - 208);
         box.week();
         due("17: a year, and a rule in force", box.worth(0, 1, 0), 10 * 24 - 208);
@@ -585,12 +569,12 @@ public final class PromisesTest {
         box.rule(0, 62, 1);
         due("17: one that is told now", box.worth(0, 1, 0), 10 * 24 - 52);
         box.table(41, 0, 0);
-        weeks(box, 52);
+        Boxes.weeks(box, 52);
         due("17: nobody of its age now", box.worth(0, 1, 0), NO_COINS);
     }
 
     private static void lodge() {
-        BreadBox box = boxWithoutDues(3);
+        BreadBox box = Boxes.withoutDues(1, 3);
         box.join(30, 2);
         box.join(30, 2);
         box.join(30, 3);
@@ -620,10 +604,10 @@ public final class PromisesTest {
 
     private static void member() {
         BreadBox box = new BreadBox();
-        weeks(box, 2);
+        Boxes.weeks(box, 2);
         box.join(45, 3);
         box.pay(0, 9);
-        weeks(box, 60);
+        Boxes.weeks(box, 60);
         box.pay(0, 1);
         int[] member = {45, 3, 2, 10};
         for (int what = 0; what < 4; what++) {
@@ -637,7 +621,7 @@ public final class PromisesTest {
     }
 
     private static void told() {
-        BreadBox box = boxWithoutDues(3);
+        BreadBox box = Boxes.withoutDues(1, 3);
         box.join(20, 0);
         box.paper(1, 22, 25);
         box.week();
@@ -663,7 +647,7 @@ public final class PromisesTest {
         box.join(31, 1);
         box.join(32, 1);
         box.rule(6, 0, 1);
-        weeks(box, 2);
+        Boxes.weeks(box, 2);
         box.pay(0, 100);
         box.paper(0, 14, 20);
         box.paper(0, 0, 6);
