@@ -5,8 +5,11 @@ import java.lang.reflect.Modifier;
 import java.nio.file.Files;
 import java.nio.file.Path;
 import java.util.Arrays;
+import java.util.HashMap;
 import java.util.HashSet;
+import java.util.Map;
 import java.util.Set;
+import java.util.TreeMap;
 import java.util.TreeSet;
 import java.util.regex.Matcher;
 import java.util.regex.Pattern;
@@ -25,7 +28,13 @@ public final class FormTest {
     private static final String[] UNWANTED = {
         "\\bthrow\\b", "\\bthrows\\b", "\\btry\\b", "\\bcatch\\b", "\\bsynchronized\\b", "\\bassert\\b", "->", "::",
         "\\w+Exact\\b", "\\bequals\\b", "\\bhashCode\\b", "\\btoString\\b", "\\bSystem\\.(?!arraycopy)", "\\bThread\\b",
-        "\\bRandom\\b", "\\bvar\\b", "\\bnative\\b", "\\bpackage\\b"};
+        "\\bRandom\\b", "\\bvar\\b", "\\bnative\\b", "\\bpackage\\b", "\\bstatic \\{",
+        "\\[\\]\\[\\]\\["};
+    /** The static functions of the library that rule 4 leaves and the class may need. */
+    private static final String LIBRARY =
+        "(Math|Integer|Long)\\.(compare|max|min|abs|signum|bitCount|floorDiv|floorMod)|"
+        + "Arrays\\.(copyOf|copyOfRange|fill)|System\\.arraycopy";
+    private static final int DEEPEST = 8;
 
     public static void main(String[] args) throws Exception {
         face();
@@ -97,19 +106,65 @@ public final class FormTest {
         while (imports.find()) {
             CHECKS.yes("4: " + imports.group(1), imports.group(1).matches("java\\.util\\.(Arrays|ArrayList|List|Iterator)"));
         }
+        library(code);
         CHECKS.yes("11: classes", ownClasses().size() <= 12);
         CHECKS.yes("3: signs", code.chars().allMatch(c -> c == '\n' || c >= 32 && c < 127));
-        longMethods(source);
+        Map<String, String> bodies = methods(code);
+        for (Map.Entry<String, String> method : bodies.entrySet()) {
+            long lines = method.getValue().lines().count();
+            CHECKS.yes("11: " + lines + " lines: " + method.getKey(), lines <= 60);
+        }
+        Map<String, Integer> depths = new HashMap<>();
+        for (String name : bodies.keySet()) {
+            int depth = depthOf(name, bodies, depths);
+            CHECKS.yes("8, 11: " + name + " goes " + depth + " deep", depth <= DEEPEST);
+        }
     }
 
-    /** A method begins at a line that opens a block behind a parameter list, and ends where its indent closes. */
-    private static void longMethods(String source) {
-        Pattern head = Pattern.compile("(?m)^( {4}| {8})(?! )[^\n=;]*\\)[^\n;]*\\{$");
-        Matcher m = head.matcher(source);
-        while (m.find()) {
-            int end = source.indexOf("\n" + m.group(1) + "}\n", m.end());
-            long lines = source.substring(m.start(), Math.max(end, m.end())).lines().count();
-            CHECKS.yes("11: " + lines + " lines: " + m.group().trim(), lines <= 60);
+    private static void library(String code) {
+        Set<String> own = new HashSet<>();
+        for (Class<?> c : ownClasses()) {
+            own.add(c.getSimpleName());
         }
+        Matcher calls = Pattern.compile("\\b([A-Z]\\w*)\\.(\\w+)\\(").matcher(code);
+        while (calls.find()) {
+            String call = calls.group(1) + "." + calls.group(2);
+            CHECKS.yes("4: " + call, own.contains(calls.group(1)) || call.matches(LIBRARY));
+        }
+    }
+
+    /**
+     * All methods and constructors by name, those of one name together. One begins at a line that opens a block behind
+     * a parameter list, and ends where its indent closes.
+     */
+    private static Map<String, String> methods(String code) {
+        Pattern head = Pattern.compile("(?m)^( {4}| {8})(?! )[^\n=;(]*?(\\w+)\\([^\n;]*\\)[^\n;]*\\{$");
+        Map<String, String> bodies = new TreeMap<>();
+        Matcher m = head.matcher(code);
+        while (m.find()) {
+            if (!m.group(2).matches("if|for|while|switch")) {
+                int end = code.indexOf("\n" + m.group(1) + "}\n", m.end());
+                bodies.merge(m.group(2), code.substring(m.end(), Math.max(end, m.end())), String::concat);
+            }
+        }
+        CHECKS.yes("methods are found: " + bodies.keySet(), bodies.size() > FACE.length);
+        return bodies;
+    }
+
+    /** How many calls stand open at once, the library's among them; far too many where one comes back to itself. */
+    private static int depthOf(String name, Map<String, String> bodies, Map<String, Integer> depths) {
+        if (depths.containsKey(name)) {
+            return depths.get(name);
+        }
+        depths.put(name, 1000);
+        int deepest = 0;
+        Matcher calls = Pattern.compile("\\b(\\w+)\\(").matcher(bodies.getOrDefault(name, ""));
+        while (calls.find()) {
+            if (!calls.group(1).matches("if|for|while|switch")) {
+                deepest = Math.max(deepest, depthOf(calls.group(1), bodies, depths));
+            }
+        }
+        depths.put(name, deepest + 1);
+        return deepest + 1;
     }
 }
